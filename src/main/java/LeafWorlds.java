@@ -54,7 +54,7 @@ public final class LeafWorlds {
     private int pastNext;
     private final Tally made = new Tally();
     private final Shaper shaper = new Shaper();
-    private final Reader reader = new Reader(tape);
+    private final Reader reader = new Reader();
     private final Writer writer = new Writer();
     private final Mapper mapper = new Mapper();
     private final Doer doer = new Doer();
@@ -63,7 +63,7 @@ public final class LeafWorlds {
 
     public LeafWorlds() {
         for (int s = 0; s < slots.length; s++) {
-            slots[s] = new Basis(new World(), shaper);
+            slots[s] = new Basis(new World());
         }
         for (int k = 0; k < PLACES; k++) {
             keptSlots[k] = NONE;
@@ -114,7 +114,7 @@ public final class LeafWorlds {
     public int world() {
         int slot = freeSlot();
         Basis fresh = slots[slot];
-        reader.begin(emptyTape(), WORLD_BYTES);
+        reader.begin(tape, emptyTape(), WORLD_BYTES);
         int lines = reader.readWorld(fresh.world);
         if (lines < 0) {
             return -1 - reader.faultPlace;
@@ -206,7 +206,7 @@ public final class LeafWorlds {
     }
 
     private boolean readSumHere() {
-        reader.begin(emptyTape(), SUM_BYTES);
+        reader.begin(tape, emptyTape(), SUM_BYTES);
         return reader.readSumAlone(worldHere());
     }
 
@@ -324,20 +324,16 @@ public final class LeafWorlds {
 
     public int dual() {
         Basis basis = basisHere();
-        if (!basis.world.hasDual()) {
+        if (!basis.world.hasDual() || !basis.reach(3)) {
             return NONE;
         }
         int slot = freeSlot();
-        makeDual(basis, slots[slot]);
+        dualizer.make(basis, slots[slot].world, made);
+        slots[slot].forget();
         current = slot;
         tables.clear(1);
         pastCount = 0;
         return worldHere().lawCount;
-    }
-
-    private void makeDual(Basis from, Basis into) {
-        dualizer.make(from, into.world, made);
-        into.forget();
     }
 
     public long undone(int n) throws NoSuchElementException {
@@ -352,7 +348,7 @@ public final class LeafWorlds {
 
     public int koszul(int n) {
         Basis basis = basisHere();
-        if (n < 1 || n > MOST_LEAVES || !basis.world.hasDual()) {
+        if (n < 1 || n > MOST_LEAVES || !basis.world.hasDual() || !basis.reach(3)) {
             return OUT_OF_REACH;
         }
         int top = 0;
@@ -377,7 +373,8 @@ public final class LeafWorlds {
             return;
         }
         Basis dual = slots[freeSlot()];
-        makeDual(basis, dual);
+        dualizer.make(basis, dual.world, made);
+        dual.forget();
         for (int k = 1; k <= top; k++) {
             basis.dualSizes[k] = dual.reach(k) ? dual.sizes[k] : 0;
         }
@@ -395,7 +392,7 @@ public final class LeafWorlds {
     }
 
     public int map(int k) {
-        reader.begin(emptyTape(), SUM_BYTES);
+        reader.begin(tape, emptyTape(), SUM_BYTES);
         Basis there = basisKept(k);
         World world = worldHere();
         if (there == null || there.world.prime != world.prime) {
@@ -513,7 +510,11 @@ public final class LeafWorlds {
     }
 
     private static int rest(int number, int prime) {
-        return prime < 2 ? 0 : Math.floorMod(number, prime);
+        if (prime < 2) {
+            return 0;
+        }
+        int over = number % prime;
+        return over < 0 ? over + prime : over;
     }
 
     /** The number that times this one is 1 by the prime; 0 if there is none. */
@@ -585,8 +586,7 @@ public final class LeafWorlds {
             int shift = KEY_BITS;
             int seen = 0;
             int runFrom = from;
-            int stop = Math.min(to, nodes.length);
-            for (int at = Math.max(0, from); at < stop; at++) {
+            for (int at = from; at >= 0 && at < to && at < nodes.length; at++) {
                 if (nodes[at] == LEAF) {
                     seen++;
                     if (seen < leaves) {
@@ -617,7 +617,7 @@ public final class LeafWorlds {
 
         static int leavesIn(int[] nodes, int from, int to) {
             int leaves = 0;
-            for (int at = Math.max(0, from); at < to && at < nodes.length; at++) {
+            for (int at = from; at >= 0 && at < to && at < nodes.length; at++) {
                 if (nodes[at] == LEAF) {
                     leaves++;
                 }
@@ -628,6 +628,19 @@ public final class LeafWorlds {
         /** The key of the tree in this row, with another tree in place of its nodes from .. to. */
         int replaced(int count, int from, int to, int key, int leaves, int leavesAll) {
             int partCount = open(key, leaves, part);
+            return code(joined, 0, splice(count, from, to, partCount), leavesAll);
+        }
+
+        /** A tree put in a leaf of another one. */
+        int grafted(int key, int leaves, int leaf, int smallKey, int smallLeaves) {
+            int count = open(key, leaves, row);
+            int partCount = open(smallKey, smallLeaves, part);
+            int at = placeOfLeaf(leaf, count);
+            return code(joined, 0, splice(count, at, at + 1, partCount), leaves + smallLeaves - 1);
+        }
+
+        /** Joins this row, but for its nodes from .. to, and the part in place of them: how many nodes. */
+        private int splice(int count, int from, int to, int partCount) {
             int length = 0;
             for (int at = 0; at < from && at < row.length && length < joined.length; at++) {
                 joined[length] = row[at];
@@ -637,18 +650,11 @@ public final class LeafWorlds {
                 joined[length] = part[at];
                 length++;
             }
-            for (int at = Math.max(0, to); at < count && at < row.length && length < joined.length; at++) {
+            for (int at = to; at >= 0 && at < count && at < row.length && length < joined.length; at++) {
                 joined[length] = row[at];
                 length++;
             }
-            return code(joined, 0, length, leavesAll);
-        }
-
-        /** A tree put in a leaf of another one. */
-        int grafted(int key, int leaves, int leaf, int smallKey, int smallLeaves) {
-            int count = open(key, leaves, row);
-            int at = placeOfLeaf(leaf, count);
-            return replaced(count, at, at + 1, smallKey, smallLeaves, leaves + smallLeaves - 1);
+            return length;
         }
 
         private int placeOfLeaf(int leaf, int count) {
@@ -871,7 +877,7 @@ public final class LeafWorlds {
         private static final int UNKNOWN = -1;
 
         final World world;
-        private final Shaper shaper;
+        private final Shaper shaper = new Shaper();
         private int built;
         private final int[] treeFrom = new int[MOST_LEAVES + 2];
         private final int[] keys = new int[MOST_KEYS];
@@ -884,9 +890,8 @@ public final class LeafWorlds {
         final int[] dualSizes = new int[MOST_LEAVES + 1];
         int dualKnown;
 
-        Basis(World itsWorld, Shaper itsShaper) {
+        Basis(World itsWorld) {
             world = itsWorld;
-            shaper = itsShaper;
             Arrays.fill(bareCounts, UNKNOWN);
         }
 
@@ -907,24 +912,20 @@ public final class LeafWorlds {
                 if (world.treeCounts[n] > MOST_TREES) {
                     return false;
                 }
-                build(n);
+                listTrees(n);
+                addRulesByEntries(n);
+                addLaws(n);
+                addPluggedLaws(n);
+                settleRules(n);
+                built = n;
             }
             return true;
         }
 
-        private void build(int n) {
-            listTrees(n);
-            int all = treesOf(n);
-            ruleFrom[n + 1] = ruleFrom[n] + all * (all - 1) / 2;
-            makeRoom(ruleFrom[n + 1]);
-            for (int t = 0; t < all; t++) {
-                marks[treeFrom[n] + t] = NORMAL;
-            }
-            addRulesByEntries(n);
-            addLaws(n);
-            addPluggedLaws(n);
+        /** All rules are found: now they bring normal trees alone. */
+        private void settleRules(int n) {
             sizes[n] = 0;
-            for (int t = 0; t < all; t++) {
+            for (int t = 0; t < treesOf(n); t++) {
                 if (isNormal(n, t)) {
                     sizes[n]++;
                 } else {
@@ -933,7 +934,6 @@ public final class LeafWorlds {
                     storeRule(n, t, 1);
                 }
             }
-            built = n;
         }
 
         int treesOf(int n) {
@@ -974,14 +974,14 @@ public final class LeafWorlds {
                 int m = n - world.entries[a] + 1;
                 for (int t = 0; m >= 1 && t < treesOf(m); t++) {
                     for (int leaf = 0; leaf < m; leaf++) {
-                        insertKey(n, plugged(m, t, leaf, a));
+                        insertKey(n, shaper.grafted(keyOf(m, t), m, leaf, Shaper.keyOfAct(a), world.entries[a]));
                     }
                 }
             }
-        }
-
-        private int plugged(int m, int tree, int leaf, int a) {
-            return shaper.grafted(keyOf(m, tree), m, leaf, Shaper.keyOfAct(a), world.entries[a]);
+            int all = treesOf(n);
+            ruleFrom[n + 1] = ruleFrom[n] + all * (all - 1) / 2;
+            makeRoom(ruleFrom[n + 1]);
+            Arrays.fill(marks, treeFrom[n], treeFrom[n + 1], NORMAL);
         }
 
         private void insertKey(int n, int key) {
@@ -1122,11 +1122,12 @@ public final class LeafWorlds {
         /** A tree less what it is like, with an act put in a leaf. */
         private void loadPlugged(int n, int m, int tree, int leaf, int a) {
             clearVector(n);
-            addToVector(n, plugged(m, tree, leaf, a), 1);
+            int actKey = Shaper.keyOfAct(a);
             int rule = ruleOf(m, tree);
-            for (int c = 0; c < tree; c++) {
-                if (rules[rule + c] != 0) {
-                    addToVector(n, plugged(m, c, leaf, a), -rules[rule + c]);
+            for (int c = 0; c <= tree; c++) {
+                int number = c == tree ? 1 : -rules[rule + c];
+                if (number != 0) {
+                    addToVector(n, shaper.grafted(keyOf(m, c), m, leaf, actKey, world.entries[a]), number);
                 }
             }
         }
@@ -1231,14 +1232,14 @@ public final class LeafWorlds {
         /** An act that is opened takes two of 900 bytes at least. */
         private static final int MOST_OPEN = 480;
 
-        private final byte[] text;
-        private int length;
-        private int most;
+        private final int[] kinds = new int[MOST_TAPE + 1];
+        private final int[] starts = new int[MOST_TAPE + 1];
+        private final long[] values = new long[MOST_TAPE + 1];
+        private int tokens;
         private int at;
         private int kind;
         private int start;
-        private int number;
-        private long word;
+        private long value;
         private boolean primeTold;
         private final int[] missing = new int[MOST_OPEN];
         private final int[] nodes = new int[MOST_OPEN];
@@ -1248,46 +1249,31 @@ public final class LeafWorlds {
         int faultKind;
         int faultPlace;
 
-        Reader(byte[] itsText) {
-            text = itsText;
-        }
-
-        void begin(int textLength, int mostBytes) {
-            length = Math.min(textLength, text.length);
-            most = mostBytes;
-            at = 0;
+        /** Parts a text into tokens; one that begins ahead of the most bytes is read whole, even past them. */
+        void begin(byte[] text, int textLength, int most) {
+            int length = Math.min(textLength, text.length);
+            int stop = Math.min(length, most);
+            int from = 0;
+            tokens = 0;
+            while (from < stop) {
+                int to = from + 1;
+                if (isSmall(text[from]) || isDigit(text[from])) {
+                    while (to < length && (isSmall(text[to]) || isDigit(text[to]))) {
+                        to++;
+                    }
+                }
+                if (text[from] != ' ' && text[from] != '\n') {
+                    addToken(text, from, to);
+                }
+                from = to;
+            }
+            kinds[tokens] = length > most ? CUT : END;
+            starts[tokens] = stop;
+            tokens++;
             faultKind = 0;
             faultPlace = 0;
+            at = -1;
             advance();
-        }
-
-        private boolean fail(int what, int place) {
-            faultKind = what;
-            faultPlace = place;
-            return false;
-        }
-
-        /** A token that begins ahead of the most bytes is read whole, even past them. */
-        private void advance() {
-            int stop = Math.min(length, most);
-            while (at < stop && (text[at] == ' ' || text[at] == '\n')) {
-                at++;
-            }
-            if (at >= stop) {
-                kind = length > most ? CUT : END;
-                start = stop;
-                return;
-            }
-            start = at;
-            if (isSmall(text[at]) || isDigit(text[at])) {
-                while (at < length && (isSmall(text[at]) || isDigit(text[at]))) {
-                    at++;
-                }
-                kind = kindOfRun();
-                return;
-            }
-            kind = isSign(text[at]) ? text[at] : NO_TOKEN;
-            at++;
         }
 
         private static boolean isSmall(byte b) {
@@ -1302,32 +1288,58 @@ public final class LeafWorlds {
             return b == ';' || b == '(' || b == ')' || b == ',' || b == '+' || b == '-' || b == '=';
         }
 
-        /** The kind of the letters and digits from start to at. */
-        private int kindOfRun() {
+        /** The last place is left for the end of the text. */
+        private void addToken(byte[] text, int from, int to) {
+            if (tokens >= MOST_TAPE) {
+                return;
+            }
             int letters = 0;
-            word = 0;
-            number = 0;
-            for (int i = start; i < at; i++) {
+            int digits = 0;
+            long worth = 0;
+            for (int i = from; i < to; i++) {
                 if (isSmall(text[i])) {
                     letters++;
-                    word = (word << 8) | text[i];
-                } else {
-                    number = number * 10 + text[i] - '0';
+                    worth = (worth << 8) | text[i];
+                } else if (isDigit(text[i])) {
+                    digits++;
+                    worth = worth * 10 + text[i] - '0';
                 }
             }
-            int signs = at - start;
-            if (letters == signs) {
-                return signs <= WORD_LETTERS ? WORD : NO_TOKEN;
+            starts[tokens] = from;
+            values[tokens] = worth;
+            kinds[tokens] = NO_TOKEN;
+            if (letters + digits == 0) {
+                kinds[tokens] = isSign(text[from]) ? text[from] : NO_TOKEN;
+            } else if (digits == 0 && letters <= WORD_LETTERS) {
+                kinds[tokens] = WORD;
+            } else if (letters == 0 && digits <= NUMBER_DIGITS) {
+                kinds[tokens] = NUMBER;
             }
-            return letters == 0 && signs <= NUMBER_DIGITS ? NUMBER : NO_TOKEN;
+            tokens++;
+        }
+
+        /** The end of the text stays, however often it is passed. */
+        private void advance() {
+            if (at + 1 < tokens) {
+                at++;
+            }
+            kind = kinds[at];
+            start = starts[at];
+            value = values[at];
+        }
+
+        private boolean fail(int what, int place) {
+            faultKind = what;
+            faultPlace = place;
+            return false;
         }
 
         private boolean isWord(long which) {
-            return kind == WORD && word == which;
+            return kind == WORD && value == which;
         }
 
         private boolean isName() {
-            return kind == WORD && word != WORD_X && word != WORD_MOD && word != WORD_ACT && word != WORD_LAW;
+            return kind == WORD && value != WORD_X && value != WORD_MOD && value != WORD_ACT && value != WORD_LAW;
         }
 
         private boolean skip(int sign) {
@@ -1342,28 +1354,24 @@ public final class LeafWorlds {
         int readWorld(World world) {
             world.clear();
             primeTold = false;
-            for (int lines = 0; lines <= length; lines++) {
-                if (kind == END) {
-                    return lines;
+            int lines = 0;
+            while (lines < tokens && kind != END) {
+                boolean read;
+                if (isWord(WORD_MOD)) {
+                    read = readPrime(world);
+                } else if (isWord(WORD_ACT)) {
+                    read = readAct(world);
+                } else if (isWord(WORD_LAW)) {
+                    read = readLaw(world);
+                } else {
+                    read = fail(FAULT_TOKEN, start);
                 }
-                if (!readLine(world) || !skip(';')) {
+                if (!read || !skip(';')) {
                     return NONE;
                 }
+                lines++;
             }
-            return NONE;
-        }
-
-        private boolean readLine(World world) {
-            if (isWord(WORD_MOD)) {
-                return readPrime(world);
-            }
-            if (isWord(WORD_ACT)) {
-                return readAct(world);
-            }
-            if (isWord(WORD_LAW)) {
-                return readLaw(world);
-            }
-            return fail(FAULT_TOKEN, start);
+            return lines;
         }
 
         private boolean readPrime(World world) {
@@ -1374,10 +1382,10 @@ public final class LeafWorlds {
             if (kind != NUMBER) {
                 return fail(FAULT_TOKEN, start);
             }
-            if (!isPrime(number)) {
+            if (!isPrime((int) value)) {
                 return fail(FAULT_NUMBER, start);
             }
-            world.prime = number;
+            world.prime = (int) value;
             primeTold = true;
             advance();
             return true;
@@ -1403,18 +1411,18 @@ public final class LeafWorlds {
             if (!isName()) {
                 return fail(FAULT_TOKEN, start);
             }
-            if (world.findAct(word) >= 0) {
+            if (world.findAct(value) >= 0) {
                 return fail(FAULT_NAME, start);
             }
-            long name = word;
+            long name = value;
             advance();
             if (kind != NUMBER) {
                 return fail(FAULT_TOKEN, start);
             }
-            if (number < 2 || number > MOST_ENTRIES) {
+            if (value < 2 || value > MOST_ENTRIES) {
                 return fail(FAULT_NUMBER, start);
             }
-            world.addAct(name, number);
+            world.addAct(name, (int) value);
             advance();
             return true;
         }
@@ -1445,10 +1453,10 @@ public final class LeafWorlds {
             if (minus) {
                 advance();
             }
-            for (int terms = 0; terms <= length; terms++) {
+            for (int terms = 0; terms < tokens; terms++) {
                 int factor = 1;
                 if (kind == NUMBER) {
-                    factor = number;
+                    factor = (int) value;
                     advance();
                 }
                 int first = start;
@@ -1481,8 +1489,8 @@ public final class LeafWorlds {
                 if (kind != WORD) {
                     return fail(FAULT_TOKEN, start);
                 }
-                if (word != WORD_X) {
-                    int a = world.findAct(word);
+                if (value != WORD_X) {
+                    int a = world.findAct(value);
                     if (a < 0) {
                         return fail(FAULT_NAME, start);
                     }
@@ -1529,14 +1537,14 @@ public final class LeafWorlds {
             for (int a = 0; a < images.length; a++) {
                 images[a].clear(0);
             }
-            for (int lines = 0; lines <= length; lines++) {
+            for (int lines = 0; lines < tokens; lines++) {
                 if (kind == END) {
                     return areAllTold(world, images);
                 }
                 if (kind != WORD) {
                     return fail(FAULT_TOKEN, start);
                 }
-                int a = world.findAct(word);
+                int a = world.findAct(value);
                 if (a < 0 || a >= images.length || images[a].leaves > 0) {
                     return fail(FAULT_NAME, start);
                 }
@@ -1887,6 +1895,7 @@ public final class LeafWorlds {
         private final int[] pivotRow = new int[MOST_COLUMNS];
         private final int[] nodes = new int[MOST_NODES];
 
+        /** Tells the dual of a world the trees of three leaves of which have been reached. */
         void make(Basis from, World into, Tally scratch) {
             World world = from.world;
             into.clear();
@@ -1894,7 +1903,7 @@ public final class LeafWorlds {
             for (int a = 0; a < world.actCount; a++) {
                 into.addAct(world.names[a], world.entries[a]);
             }
-            int columns = from.reach(3) ? Math.min(MOST_COLUMNS, from.treesOf(3)) : 0;
+            int columns = Math.min(MOST_COLUMNS, from.treesOf(3));
             fillGrid(from, columns);
             clearColumns(world.lawCount, columns, world.prime);
             for (int f = columns - 1; f >= 0; f--) {
