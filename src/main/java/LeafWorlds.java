@@ -536,10 +536,10 @@ public final class LeafWorlds {
     }
 
     /**
-     * A tree is one number, its key: for each leaf but the last, how many acts are new on its path
-     * (3 bits), then these acts (2 bits each), from bit 30 down. The last leaf never has new acts.
-     * Of trees with as many leaves the greater one has the greater key: where all paths ahead are
-     * alike, a path is longer just if more of its acts are new. A leaf alone has key 0.
+     * A tree is one number, its key: for each leaf how many acts are new on its path (3 bits), then
+     * these acts (2 bits each), from bit 30 down. The last leaf never has new acts, so seven leaves
+     * and six acts have room. Of trees with as many leaves the greater one has the greater key: where
+     * all paths ahead are alike, a path is longer just if more of its acts are new. A leaf alone is 0.
      */
     private static final class Shaper {
         private static final int KEY_BITS = 30;
@@ -560,16 +560,14 @@ public final class LeafWorlds {
         static int open(int key, int leaves, int[] nodes) {
             int shift = KEY_BITS;
             int count = 0;
-            for (int leaf = 1; leaf <= leaves; leaf++) {
-                if (leaf < leaves) {
-                    shift -= RUN_BITS;
-                    int run = shift < 0 ? 0 : (key >>> shift) & 7;
-                    for (int j = 0; j < run; j++) {
-                        shift -= ACT_BITS;
-                        if (shift >= 0 && count < nodes.length) {
-                            nodes[count] = (key >>> shift) & 3;
-                            count++;
-                        }
+            for (int leaf = 0; leaf < leaves; leaf++) {
+                shift -= RUN_BITS;
+                int run = shift < 0 ? 0 : (key >>> shift) & 7;
+                for (int j = 0; j < run; j++) {
+                    shift -= ACT_BITS;
+                    if (shift >= 0 && count < nodes.length) {
+                        nodes[count] = (key >>> shift) & 3;
+                        count++;
                     }
                 }
                 if (count < nodes.length) {
@@ -580,22 +578,19 @@ public final class LeafWorlds {
             return count;
         }
 
-        /** The key of the tree with these leaves that stands in a row from a place up to another. */
-        static int code(int[] nodes, int from, int to, int leaves) {
+        /** The key of the tree that stands in a row from a place up to another. */
+        static int code(int[] nodes, int from, int to) {
             int key = 0;
             int shift = KEY_BITS;
-            int seen = 0;
             int runFrom = from;
             for (int at = from; at >= 0 && at < to && at < nodes.length; at++) {
                 if (nodes[at] == LEAF) {
-                    seen++;
-                    if (seen < leaves) {
-                        shift -= RUN_BITS;
-                        key |= (at - runFrom) << shift;
-                        for (int j = runFrom; j < at; j++) {
-                            shift -= ACT_BITS;
-                            key |= nodes[j] << shift;
-                        }
+                    shift -= RUN_BITS;
+                    // The bits of the last leaf may be past the end; they are all 0.
+                    key |= shift < 0 ? 0 : (at - runFrom) << shift;
+                    for (int j = runFrom; j < at; j++) {
+                        shift -= ACT_BITS;
+                        key |= shift < 0 ? 0 : nodes[j] << shift;
                     }
                     runFrom = at + 1;
                 }
@@ -626,9 +621,9 @@ public final class LeafWorlds {
         }
 
         /** The key of the tree in this row, with another tree in place of its nodes from .. to. */
-        int replaced(int count, int from, int to, int key, int leaves, int leavesAll) {
+        int replaced(int count, int from, int to, int key, int leaves) {
             int partCount = open(key, leaves, part);
-            return code(joined, 0, splice(count, from, to, partCount), leavesAll);
+            return code(joined, 0, splice(count, from, to, partCount));
         }
 
         /** A tree put in a leaf of another one. */
@@ -636,7 +631,7 @@ public final class LeafWorlds {
             int count = open(key, leaves, row);
             int partCount = open(smallKey, smallLeaves, part);
             int at = placeOfLeaf(leaf, count);
-            return code(joined, 0, splice(count, at, at + 1, partCount), leaves + smallLeaves - 1);
+            return code(joined, 0, splice(count, at, at + 1, partCount));
         }
 
         /** Joins this row, but for its nodes from .. to, and the part in place of them: how many nodes. */
@@ -1076,13 +1071,13 @@ public final class LeafWorlds {
             for (int entry = 0; entry < MOST_ENTRIES && from < count; entry++) {
                 int to = Shaper.endOf(shaper.row, from, count, world.entries);
                 int m = Shaper.leavesIn(shaper.row, from, to);
-                int sub = placeOf(m, Shaper.code(shaper.row, from, to, m)) - treeFrom[m];
+                int sub = placeOf(m, Shaper.code(shaper.row, from, to)) - treeFrom[m];
                 if (!isNormal(m, sub)) {
                     clearVector(n);
                     int rule = ruleOf(m, sub);
                     for (int c = 0; c < sub; c++) {
                         if (rules[rule + c] != 0) {
-                            int key = shaper.replaced(count, from, to, keyOf(m, c), m, n);
+                            int key = shaper.replaced(count, from, to, keyOf(m, c), m);
                             addToVector(n, key, rules[rule + c]);
                         }
                     }
@@ -1469,7 +1464,7 @@ public final class LeafWorlds {
                 if (treeLeaves != into.leaves || treeLeaves < least) {
                     return fail(FAULT_NAME, first);
                 }
-                int key = Shaper.code(nodes, 0, nodeCount, treeLeaves);
+                int key = Shaper.code(nodes, 0, nodeCount);
                 into.put(key, minus ? -factor : factor, world.prime);
                 if (kind != '+' && kind != '-') {
                     return true;

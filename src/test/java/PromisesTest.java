@@ -584,6 +584,20 @@ public final class PromisesTest {
         due("closed", x.closed(7), 4);
         due("closed", x.closed(0), -2);
         due("closed", x.closed(8), -2);
+        // Worlds in turn: what was found of one is not told of another.
+        for (int turn = 0; turn < 6; turn++) {
+            world(x, "act m 2;law m(m(x,x),x)+m(x,m(x,x));");
+            due("not closed", x.closed(7), 4);
+            due("koszul", x.koszul(7), 5);
+            world(x, turn % 2 == 0 ? "act m 2;law m(m(x,x),x)-m(x,m(x,x));" : "mod 2;act m 2;law m(m(x,x),x)+m(x,m(x,x));");
+            due("closed", x.closed(7), -1);
+            due("bare", x.bare(5), 1);
+            due("koszul", x.koszul(7), -1);
+            if (turn % 2 == 0) {
+                world(x, "");
+            }
+        }
+        x = in("act m 2;law m(m(x,x),x)+m(x,m(x,x));");
         promise = 17;
         // The piece stands in the midst of the tree: a(x,b(..)) under b, with trees in its leaves.
         x = in("act a 2;act b 2;law a(x,b(x,x));law 0 b(x,x);");
@@ -640,6 +654,23 @@ public final class PromisesTest {
         due("leaves", x.leaves(), 7);
         due("times", x.times(2), 972);
         due("term", x.term(971), 2);
+        // Ten terms times ten times ten: just 1000. A law of seven leaves then brings one more tree.
+        x = in("act a 2;act b 2;act c 2;law c(c(c(c(c(c(x,x),x),x),x),x),x)+2 a(a(a(a(a(a(x,x),x),x),x),x),x);");
+        String ten = "a(x,a(x,x))+b(x,a(x,x))+c(x,a(x,x))+a(x,b(x,x))+b(x,b(x,x))+c(x,b(x,x))+a(x,c(x,x))+b(x,c(x,x))+a(a(x,x),x)+b(a(x,x),x)";
+        due("10 terms", sum(x, ten), 10);
+        due("times 10", plug(x, 2, ten), 100);
+        due("times 10", plug(x, 4, ten), 1000);
+        due("leaves", x.leaves(), 7);
+        due("a law behind", x.add(0, 1), 1002);
+        due("term", x.term(0), 1);
+        due("greatest", x.termAt(0, 0), 'c');
+        due("term", x.term(1001), 1);
+        due("least", x.termAt(1001, 2), 'x');
+        due("leaf in leaf, too many terms", plug(x, 0, "x"), -1001);
+        due("no such leaf is looked at first", plug(x, 7, "x"), -1000);
+        due("undo", x.undo(), 1000);
+        due("leaf in leaf", plug(x, 6, "2 x"), 1000);
+        due("term", x.term(999), 2);
         sum(x, "x+x");
         due("terms that are one count once", plug(x, 0, again("x+", 199) + "x"), 1);
         due("shown", show(x), "12 x");
