@@ -4,8 +4,8 @@ import java.util.NoSuchElementException;
 /**
  * Worlds of acts with several entries, told by laws as sums of trees over numbers by a prime.
  *
- * All rows are made with the object and used again, because everything that a run of calls makes
- * stays in one room; only the rules of a basis grow, by doubling, up to their own small bound.
+ * Rows are made with the object and used again, because everything that a run of calls makes stays
+ * in one room; those that are seldom long grow when they have to, up to a small bound.
  */
 public final class LeafWorlds {
     public static final int NONE = -1;
@@ -679,10 +679,12 @@ public final class LeafWorlds {
 
     /** A sum of trees with as many leaves, the greatest first, none with 0. */
     private static final class Tally {
+        private static final int FIRST_TERMS = 32;
+
         int leaves = 1;
         int terms;
-        final int[] keys = new int[MOST_TERMS];
-        final int[] nums = new int[MOST_TERMS];
+        int[] keys = new int[FIRST_TERMS];
+        int[] nums = new int[FIRST_TERMS];
 
         void clear(int leavesNow) {
             leaves = leavesNow;
@@ -690,10 +692,20 @@ public final class LeafWorlds {
         }
 
         void copy(Tally other) {
+            makeRoom(other.terms);
             leaves = other.leaves;
-            terms = other.terms;
+            terms = Math.min(other.terms, keys.length);
             System.arraycopy(other.keys, 0, keys, 0, terms);
             System.arraycopy(other.nums, 0, nums, 0, terms);
+        }
+
+        /** Most sums are short, so long rows are made when they are needed first. */
+        private void makeRoom(int need) {
+            if (need > keys.length && need <= MOST_TERMS) {
+                int length = Math.min(MOST_TERMS, Math.max(need, 2 * keys.length));
+                keys = Arrays.copyOf(keys, length);
+                nums = Arrays.copyOf(nums, length);
+            }
         }
 
         void put(int key, int number, int prime) {
@@ -703,6 +715,7 @@ public final class LeafWorlds {
             }
             int at = placeOf(key);
             if (at >= terms || keys[at] != key) {
+                makeRoom(terms + 1);
                 insert(at, key, more);
                 return;
             }
@@ -734,7 +747,7 @@ public final class LeafWorlds {
         }
 
         private void insert(int at, int key, int number) {
-            if (at < 0 || at > terms || terms >= MOST_TERMS) {
+            if (at < 0 || at > terms || terms >= keys.length) {
                 return;
             }
             System.arraycopy(keys, at, keys, at + 1, terms - at);
@@ -1716,9 +1729,9 @@ public final class LeafWorlds {
         /** Three ways for each of seven leaves and for the outcome. */
         private static final int MOST_BLOCK = 6561;
 
-        private int[] block = new int[MOST_BLOCK];
-        private int[] nextBlock = new int[MOST_BLOCK];
-        private final int[] total = new int[MOST_BLOCK];
+        private int[] block = new int[0];
+        private int[] nextBlock = new int[0];
+        private int[] total = new int[0];
         private final int[] nodes = new int[MOST_NODES];
         private final int[] stack = new int[MOST_NODES * MOST_WAYS];
         private final int[] result = new int[MOST_WAYS];
@@ -1727,6 +1740,7 @@ public final class LeafWorlds {
         boolean isNothing(World world, int l, Tables tables) {
             int leaves = world.lawLeaves[l];
             int cells = Math.min(MOST_BLOCK, power(tables.ways, leaves + 1));
+            makeRoom(cells);
             Arrays.fill(total, 0, cells, 0);
             for (int i = world.lawFrom[l]; i < world.lawFrom[l + 1]; i++) {
                 fillBlock(world, world.lawKeys[i], leaves, tables);
@@ -1742,11 +1756,19 @@ public final class LeafWorlds {
             return true;
         }
 
+        private void makeRoom(int cells) {
+            if (cells > total.length && cells <= MOST_BLOCK) {
+                block = new int[cells];
+                nextBlock = new int[cells];
+                total = new int[cells];
+            }
+        }
+
         /** What a tree does for all rows of ways at once, from the root on, act by act. */
         private void fillBlock(World world, int key, int leaves, Tables tables) {
             int ways = tables.ways;
             for (int i = 0; i < ways; i++) {
-                for (int o = 0; o < ways; o++) {
+                for (int o = 0; o < ways && i * ways + o < block.length; o++) {
                     block[i * ways + o] = i == o ? 1 : 0;
                 }
             }
@@ -1769,7 +1791,7 @@ public final class LeafWorlds {
         private void putTable(World world, int act, Tables tables, int ahead, int behind) {
             int ways = tables.ways;
             int rows = power(ways, world.entries[act]);
-            if (ahead * rows * behind > MOST_BLOCK) {
+            if (ahead * rows * behind > nextBlock.length) {
                 return;
             }
             for (int b = 0; b < ahead; b++) {

@@ -153,6 +153,16 @@ public final class RandomRunsTest {
         return s.toString();
     }
 
+    /** With blanks that bring the text near the most bytes it may have. */
+    private String stretched(String text, int most) {
+        int more = most - text.length() + random.nextInt(30) - 15;
+        if (random.nextInt(12) != 0 || more < 1 || text.length() + more > 940) {
+            return text;
+        }
+        int at = random.nextInt(text.length() + 1);
+        return text.substring(0, at) + " ".repeat(more) + text.substring(at);
+    }
+
     private String spoilt(String text) {
         if (random.nextInt(6) != 0) {
             return text;
@@ -194,7 +204,7 @@ public final class RandomRunsTest {
             int n = binary && random.nextInt(4) != 0 ? 3 : 2 + random.nextInt(4);
             s.append("law ").append(sumText(n, 1 + random.nextInt(3), names, entries)).append(';');
         }
-        feed(spoilt(s.toString()));
+        feed(stretched(spoilt(s.toString()), 900));
         same("world()", right.world(), due.world());
         same("fault()", right.fault(), due.fault());
         names = new String[due.count(1)];
@@ -217,12 +227,12 @@ public final class RandomRunsTest {
         switch (which) {
             case 0, 1, 2 -> newWorld();
             case 3, 4, 5, 6 -> {
-                feed(spoilt(sumText(1 + random.nextInt(5), 1 + random.nextInt(4), names, entries)));
+                feed(stretched(spoilt(sumText(1 + random.nextInt(5), 1 + random.nextInt(4), names, entries)), 400));
                 same("sum()", right.sum(), due.sum());
                 same("fault()", right.fault(), due.fault());
             }
             case 7, 8, 9 -> {
-                feed(spoilt(sumText(1 + random.nextInt(3), 1 + random.nextInt(3), names, entries)));
+                feed(stretched(spoilt(sumText(1 + random.nextInt(3), 1 + random.nextInt(3), names, entries)), 400));
                 int i = random.nextInt(4) - (random.nextInt(9) == 0 ? 1 : 0);
                 same("plug(" + i + ")", right.plug(i), due.plug(i));
                 same("fault()", right.fault(), due.fault());
@@ -318,7 +328,7 @@ public final class RandomRunsTest {
             s.append(names[a]).append(blank()).append("=").append(blank());
             s.append(sumText(entries[a], 1 + random.nextInt(3), keptNames, keptEntries)).append(";").append(blank());
         }
-        feed(spoilt(s.toString()));
+        feed(stretched(spoilt(s.toString()), 400));
         int place = random.nextInt(2);
         same("map(" + place + ")", right.map(place), due.map(place));
         same("fault()", right.fault(), due.fault());
