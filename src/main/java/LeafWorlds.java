@@ -1494,16 +1494,9 @@ public final class LeafWorlds {
             treeLeaves = 0;
             int open = 0;
             for (int steps = 0; steps < MOST_OPEN; steps++) {
-                if (kind != WORD) {
-                    return fail(FAULT_TOKEN, start);
-                }
-                if (value != WORD_X) {
-                    int a = world.findAct(value);
-                    if (a < 0) {
-                        return fail(FAULT_NAME, start);
-                    }
-                    advance();
-                    if (!skip('(')) {
+                if (!isWord(WORD_X)) {
+                    int a = readActName(world);
+                    if (a < 0 || !skip('(')) {
                         return false;
                     }
                     nodes[steps] = a;
@@ -1524,6 +1517,21 @@ public final class LeafWorlds {
                 }
             }
             return fail(FAULT_TOKEN, start);
+        }
+
+        /** Reads the name of an act of the world; words of the document itself are no names, so they can't come. */
+        private int readActName(World world) {
+            if (!isName()) {
+                fail(FAULT_TOKEN, start);
+                return NONE;
+            }
+            int a = world.findAct(value);
+            if (a < 0) {
+                fail(FAULT_NAME, start);
+                return NONE;
+            }
+            advance();
+            return a;
         }
 
         /** Behind a tree: reads ) of acts that have all entries, or a comma: how many stay open. */
@@ -1549,14 +1557,14 @@ public final class LeafWorlds {
                 if (kind == END) {
                     return areAllTold(world, images);
                 }
-                if (kind != WORD) {
-                    return fail(FAULT_TOKEN, start);
+                int first = start;
+                int a = readActName(world);
+                if (a < 0 || a >= images.length) {
+                    return false;
                 }
-                int a = world.findAct(value);
-                if (a < 0 || a >= images.length || images[a].leaves > 0) {
-                    return fail(FAULT_NAME, start);
+                if (images[a].leaves > 0) {
+                    return fail(FAULT_NAME, first);
                 }
-                advance();
                 if (!skip('=') || !readTerms(other, images[a], world.entries[a], 1) || !skip(';')) {
                     return false;
                 }

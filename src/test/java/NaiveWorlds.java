@@ -481,6 +481,11 @@ final class NaiveWorlds {
             return token != null && token.matches("[a-z]+");
         }
 
+        /** A word, none of those that the document tells itself. */
+        boolean name() {
+            return word() && !List.of("x", "mod", "act", "law").contains(token);
+        }
+
         boolean number() {
             return token != null && token.matches("[0-9]+");
         }
@@ -488,9 +493,6 @@ final class NaiveWorlds {
         int leavesSeen;
 
         Tree tree(World world) {
-            if (!word()) {
-                throw fault(1);
-            }
             if (is("x")) {
                 leavesSeen++;
                 if (leavesSeen > 7) {
@@ -498,6 +500,9 @@ final class NaiveWorlds {
                 }
                 next();
                 return Tree.LEAF;
+            }
+            if (!name()) {
+                throw fault(1);
             }
             int act = world.names.indexOf(token);
             if (act < 0) {
@@ -576,7 +581,7 @@ final class NaiveWorlds {
                         throw fault(4);
                     }
                     next();
-                    if (!word() || List.of("x", "mod", "act", "law").contains(token)) {
+                    if (!name()) {
                         throw fault(1);
                     }
                     if (world.names.contains(token)) {
@@ -620,7 +625,7 @@ final class NaiveWorlds {
         Sum[] map(World world, World there) {
             Sum[] images = new Sum[world.names.size()];
             while (!is("")) {
-                if (!word()) {
+                if (!name()) {
                     throw fault(1);
                 }
                 int act = world.names.indexOf(token);

@@ -142,6 +142,7 @@ public final class PromisesTest {
         tape();
         worlds();
         worldFaults();
+        reservedWords();
         limits();
         actsAndLaws();
         counts();
@@ -344,6 +345,64 @@ public final class PromisesTest {
             due("prime", world(x, "mod " + p + ";"), 1);
             due("prime", x.count(0), p);
         }
+    }
+
+    /** Words that the document tells itself are never an act's name: they can't come where a tree or an act is due. */
+    private static void reservedWords() {
+        LeafWorlds x = in(ASSOCIATIVE);
+        x.image(0);
+        sum(x, "3 m(x,x)");
+        for (String word : new String[] {"mod", "act", "law"}) {
+            promise = 4;
+            worldFault("act m 2;law " + word + "(x,x);", 1, 12);
+            worldFault("act m 2;law " + word + ";", 1, 12);
+            worldFault("act m 2;law m(" + word + ",x);", 1, 14);
+            worldFault("act m 2;law m(x,x)-4 " + word + "(x,x);", 1, 21);
+            worldFault("law " + word + " 3;", 1, 4);
+            promise = 10;
+            sumFault(x, word, 1, 0);
+            sumFault(x, "- " + word + "(x,x)", 1, 2);
+            sumFault(x, "m(x," + word + "(x,x))", 1, 4);
+            sumFault(x, "m(x,x)+" + word, 1, 7);
+            // Past seven leaves it is still no leaf.
+            sumFault(x, "m(x,m(x,m(x,m(x,m(x,m(x,m(x," + word, 1, 28);
+            promise = 19;
+            textFault(word, plug(x, 0, "  " + word + "(x,x)"), x, 1, 2);
+            textFault(word, plug(x, 9, "m(" + word + ",x)"), x, 1, 2);
+            promise = 27;
+            textFault(word, map(x, 0, word), x, 1, 0);
+            textFault(word, map(x, 0, word + "=m(x,x);"), x, 1, 0);
+            textFault(word, map(x, 0, "m=m(x,x);" + word + "=m(x,x);"), x, 1, 9);
+            textFault(word, map(x, 0, "m=" + word + "(x,x);"), x, 1, 2);
+            textFault(word, map(x, 0, "m=m(x," + word + ");"), x, 1, 6);
+            textFault(word, map(x, 0, "m=2 " + word + ";"), x, 1, 4);
+        }
+        // A leaf is a tree, but no act.
+        textFault("x", map(x, 0, "x=m(x,x);"), x, 1, 0);
+        textFault("x", map(x, 0, "m=m(x,x);x"), x, 1, 9);
+        // Words that only begin like them could be names.
+        for (String word : new String[] {"mods", "acts", "lawx", "xx", "mo", "ac", "la"}) {
+            promise = 4;
+            worldFault("act m 2;law " + word + "(x,x);", 3, 12);
+            promise = 10;
+            sumFault(x, word + "(x,x)", 3, 0);
+            promise = 19;
+            textFault(word, plug(x, 0, word), x, 3, 0);
+            promise = 27;
+            textFault(word, map(x, 0, word + "=m(x,x);"), x, 3, 0);
+            textFault(word, map(x, 0, "m=" + word + "(x,x);"), x, 3, 2);
+            due("a name", world(new LeafWorlds(), "act " + word + " 2;law " + word + "(x,x);"), 2);
+        }
+        due("sum stays", show(x), "3 m(x,x)");
+    }
+
+    private static void textFault(String word, int answer, LeafWorlds x, int kind, int place) {
+        due("text with " + word, answer, -1 - place);
+        due("tape is empty", x.count(5), 0);
+        int reading = promise;
+        promise = 5;
+        due("fault of text with " + word, x.fault(), kind);
+        promise = reading;
     }
 
     private static void limits() {

@@ -167,6 +167,9 @@ public final class RandomRunsTest {
         if (random.nextInt(6) != 0) {
             return text;
         }
+        if (random.nextInt(4) == 0) {
+            return withOtherWord(text);
+        }
         StringBuilder s = new StringBuilder(text);
         String signs = "xmn(),;+-= 2390AQZ~\n\u00e9";
         for (int i = 0, n = 1 + random.nextInt(2); i < n && s.length() > 0; i++) {
@@ -181,6 +184,21 @@ public final class RandomRunsTest {
             }
         }
         return s.toString();
+    }
+
+    /** One word of the text becomes one that the document tells itself, or one that may be a name. */
+    private String withOtherWord(String text) {
+        List<int[]> words = new ArrayList<>();
+        java.util.regex.Matcher found = java.util.regex.Pattern.compile("[a-z]+").matcher(text);
+        while (found.find()) {
+            words.add(new int[] {found.start(), found.end()});
+        }
+        if (words.isEmpty()) {
+            return text;
+        }
+        int[] word = words.get(random.nextInt(words.size()));
+        String other = List.of("mod", "act", "law", "x", "m", "modx", "la", "sevenle").get(random.nextInt(8));
+        return text.substring(0, word[0]) + other + text.substring(word[1]);
     }
 
     private void newWorld() {
