@@ -35,6 +35,7 @@ public final class CallSentencesTest {
         add();
         undo();
         undoOfEach();
+        undoThenMake();
         dual();
         undone();
         koszul();
@@ -71,6 +72,8 @@ public final class CallSentencesTest {
         S.due("no law", x.law(0, 0), -1);
         S.due("a leaf is a tree", x.trees(1), 1);
         S.due("no other tree", x.trees(2), 0);
+        S.due("it is bare", x.bare(1), 1);
+        S.due("and normal", x.size(1), 1);
         S.due("nothing is kept in 0", x.restore(0), false);
         S.due("nothing is kept in 1", x.restore(1), false);
         S.due("the empty tape is no sum", x.sum(), -1);
@@ -609,7 +612,7 @@ public final class CallSentencesTest {
         S.due("leaves", x.leaves(), 2);
         x.sum("x");
         S.due("in a leaf alone", x.plug(0, "m(x,m(x,x))-t(x,x,x)"), 2);
-        // Ten by ten by ten terms are 1000; one by 1001 is not told by 400 bytes, 91 by 11 is 1001.
+        // 1001 is 7 by 13 by 11.
         x.world("act a 2;act b 2;act c 2;");
         String three = "a(x,x)+b(x,x)+c(x,x)";
         String eleven = "a(x,a(x,x))+a(x,b(x,x))+a(x,c(x,x))+b(x,a(x,x))+b(x,b(x,x))+b(x,c(x,x))+c(x,a(x,x))+c(x,b(x,x))+c(x,c(x,x))+a(a(x,x),x)+b(a(x,x),x)";
@@ -619,6 +622,11 @@ public final class CallSentencesTest {
         S.due("99 by 11 is above 1000", x.plug(0, eleven), -1001);
         S.due("it stays", x.count(3), 99);
         S.due("99 by 10", x.plug(0, eleven.substring(0, eleven.length() - 12)), 990);
+        x.sum(eleven.substring(0, 7 * 12 - 1));
+        S.due("7 by 13", x.plug(0, eleven + "+c(a(x,x),x)+a(b(x,x),x)"), 91);
+        S.due("91 by 11 is 1001", x.plug(0, eleven), -1001);
+        S.due("it stays", x.count(3), 91);
+        S.due("91 by 10", x.plug(0, eleven.substring(0, eleven.length() - 12)), 910);
     }
 
     private static void plugRefused() {
@@ -765,6 +773,21 @@ public final class CallSentencesTest {
         }
     }
 
+    private static void undoThenMake() {
+        S.promise(22, "The SUM is as it was ahead of the latest call");
+        String[] due = {"5 m(m(x,x),x) + 5 m(x,m(x,x))", "3 m(x,m(x,x))", "2 m(m(x,x),x)", "3 m(m(m(x,x),x),x)"};
+        for (int which = 0; which < due.length; which++) {
+            Probe x = Probe.in(ASSOCIATIVE);
+            x.sum("3 m(m(x,x),x)");
+            x.sum("m(x,m(x,x))");
+            S.due("undo", x.undo(), 1);
+            makeOne(x, which);
+            S.due("a call of " + which + " takes the sum that is back", x.show(), due[which]);
+            S.due("undo", x.undo(), 1);
+            S.due("the sum ahead", x.show(), "3 m(m(x,x),x)");
+        }
+    }
+
     /** Calls that make a sum of the one at hand, one of each kind. */
     private static void makeOne(Probe x, int which) {
         switch (which) {
@@ -814,11 +837,21 @@ public final class CallSentencesTest {
         S.due("the sum", x.show(), "4 ab(x,c(x,x))");
         S.due("nothing for undo", x.undo(), -1);
         S.due("it stays", x.show(), "4 ab(x,c(x,x))");
+        x.times(2);
+        S.due("it goes on", x.undo(), 1);
+        S.due("nothing more", x.undo(), -1);
         S.due("tables are 0", x.done(0, "\0\0\0"), 0);
         x.space(2);
         S.due("in two ways too", x.done(1, "\1\1\1"), 0);
         S.due("size", x.size(3), 1);
         S.due("of nothing", new Probe().dual(), 0);
+        x.world("act m 2;");
+        for (int turn = 0; turn < 3; turn++) {
+            S.due("all of 3 leaves are 0", x.dual(), 2);
+            S.due("sizes", x.size(2) * 10 + x.size(3), 10);
+            S.due("none is", x.dual(), 0);
+            S.due("sizes", x.size(2) * 10 + x.size(3), 12);
+        }
         x.world("mod 7;act m 2;law m(x,x);");
         x.space(3);
         x.sum("3 m(x,x)");
@@ -1104,6 +1137,9 @@ public final class CallSentencesTest {
         S.due("seven bytes", x.done(1, "\1".repeat(7)) >= 0, true);
         S.due("eight bytes", x.done(1, "\1".repeat(8)), -1);
         S.due("six bytes", x.done(1, "\1".repeat(6)), -1);
+        x.space(3);
+        x.table(0, "\0".repeat(26) + "\3");
+        S.due("seven leaves in three ways: 3 six times is 1 by 7", x.done(2, "\2".repeat(7)), 1);
         x.space(1);
         S.due("no way 1 in a space of 1", x.done(1, "\0".repeat(7)), -1);
         S.due("no way 1 for a leaf", x.done(0, "\1".repeat(7)), -1);
@@ -1217,6 +1253,9 @@ public final class CallSentencesTest {
         S.due("the tape stays", x.count(5), 6);
         S.due("broken stays", x.broken(), 2);
         S.due("nothing for undo", x.undo(), -1);
+        x.times(0);
+        S.due("it goes on", x.undo(), 0);
+        S.due("nothing more", x.undo(), -1);
         S.due("the tape is read then", x.world(), 1);
         S.due("P", x.count(0), 5);
         x.map(0, "Q");

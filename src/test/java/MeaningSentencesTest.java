@@ -105,6 +105,15 @@ public final class MeaningSentencesTest {
         reduces(world, "x", "1 x");
         reduces("mod 3;act a 2;act b 2;law a(x,x)+b(x,x);law a(x,x)-b(x,x);", "a(x,x)", "");
         reduces("mod 2;act a 2;act b 2;law a(x,x)+b(x,x);law a(x,x)-b(x,x);", "b(x,x)", "1 a(x,x)");
+        String rule = "mod 7;act a 2;act b 2;law b(b(x,x),x)-2 a(x,b(x,x))-3 a(x,a(x,x));";
+        reduces(rule, "b(b(x,x),x)", "2 a(x,b(x,x)) + 3 a(x,a(x,x))");
+        reduces(rule, "a(x,b(b(x,x),x))", "2 a(x,a(x,b(x,x))) + 3 a(x,a(x,a(x,x)))");
+        reduces(rule, "a(b(b(x,x),x),x)", "2 a(a(x,b(x,x)),x) + 3 a(a(x,a(x,x)),x)");
+        String four = "act q 4;act m 2;act n 2;law n(x,x)-5 m(x,x);";
+        reduces(four, "q(n(x,x),x,x,x)", "5 q(m(x,x),x,x,x)");
+        reduces(four, "q(x,n(x,x),x,x)", "5 q(x,m(x,x),x,x)");
+        reduces(four, "q(x,x,n(x,x),x)", "5 q(x,x,m(x,x),x)");
+        reduces(four, "q(x,x,x,n(x,x))", "5 q(x,x,x,m(x,x))");
         // Laws tell nothing of trees with fewer leaves, and a law that is 0 tells nothing at all.
         reduces("act m 2;law m(x,m(x,x));", "m(x,x)", "1 m(x,x)");
         reduces("act m 2;law 97 m(x,x);", "m(x,x)", "1 m(x,x)");
@@ -197,6 +206,7 @@ public final class MeaningSentencesTest {
         S.due("of 2", x.bare(2), 2);
         S.due("of 3", x.bare(3), 7);
         S.due("of 4", x.bare(4), 30);
+        S.due("just those are normal", x.closed(5), -1);
         x = Probe.in("act a 2;act b 2;law b(x,x)-3 a(x,x);");
         S.due("the greatest tree alone: a's are bare", x.bare(2), 1);
         S.due("they stay so", x.bare(5), 14);
@@ -213,7 +223,19 @@ public final class MeaningSentencesTest {
         // The piece in the first, midst and last entry.
         x = Probe.in("act t 3;act m 2;law m(x,x);");
         S.due("of 4", x.bare(4), 0);
+        S.due("nor normal, the least one too", x.size(4), 0);
         S.due("of 5", x.bare(5), 3);
+        // Laws of worlds ahead have none here.
+        x.world("act m 2;");
+        S.due("of 2", x.bare(2), 1);
+        for (int between = 0; between < 4; between++) {
+            x.world("act m 2;law m(x,m(x,x));");
+            for (int i = 0; i < between; i++) {
+                x.world("");
+            }
+            x.world("act m 2;");
+            S.due("of 3", x.bare(3), 2);
+        }
     }
 
     private static void closed() {
@@ -267,6 +289,12 @@ public final class MeaningSentencesTest {
         // w of a(a,x), 2 w of a(b,x), and w of a(x,a) added are 0: the least of them, a(x,a), is told by the two greater ones.
         dualLaws("mod 7;act a 2;act b 2;law a(a(x,x),x)+2 a(b(x,x),x)-a(x,a(x,x));", "1 b(b(x,x),x)", "1 b(a(x,x),x)",
             "1 a(b(x,x),x) + 5 a(x,a(x,x))", "1 a(a(x,x),x) + 6 a(x,a(x,x))", "1 b(x,b(x,x))", "1 b(x,a(x,x))", "1 a(x,b(x,x))");
+        // w of a(x,a), with w of a(a,x) and with w of b(b,x), is 0: so these two are like ones.
+        dualLaws("mod 7;act a 2;act b 2;law a(a(x,x),x)-a(x,a(x,x));law b(b(x,x),x)-a(x,a(x,x));",
+            "1 b(b(x,x),x) + 1 a(a(x,x),x) + 6 a(x,a(x,x))", "1 b(a(x,x),x)", "1 a(b(x,x),x)", "1 b(x,b(x,x))", "1 b(x,a(x,x))", "1 a(x,b(x,x))");
+        // The same, told by laws the second of which has the least tree: w of a(a,x) is -2, w of a(x,a) is 2 by 7.
+        dualLaws("mod 7;act a 2;act b 2;law a(a(x,x),x)+2 b(b(x,x),x);law a(x,a(x,x))-a(a(x,x),x);",
+            "1 b(b(x,x),x) + 5 a(a(x,x),x) + 2 a(x,a(x,x))", "1 b(a(x,x),x)", "1 a(b(x,x),x)", "1 b(x,b(x,x))", "1 b(x,a(x,x))", "1 a(x,b(x,x))");
         // Back again: the dual of the dual has the sums of the laws, in the one form.
         Probe x = Probe.in("mod 7;act a 2;act b 2;law 3 a(a(x,x),x)+3 b(x,a(x,x));law 2 a(a(x,x),x);");
         S.due("dual", x.dual(), 6);
@@ -320,6 +348,13 @@ public final class MeaningSentencesTest {
         S.due("to 4", x.koszul(4), -1);
         S.due("to 5", x.koszul(5), 5);
         S.due("to 7", x.koszul(7), 5);
+        // Worlds in turn: what was found of one is not told of the next.
+        x.world(ASSOCIATIVE);
+        S.due("the next", x.koszul(7), -1);
+        x.world(OPPOSED);
+        S.due("the one again", x.koszul(7), 5);
+        x.world("act m 2;");
+        S.due("another", x.koszul(7), -1);
         // f = t + 2 tt + ttt: 143 at 5; the dual has 147 there: t - 2 tt + ttt - 4 ttttt, undone. 6 leaves are too many.
         String with0 = "law m(n(x,x),x);law m(x,n(x,x));law n(m(x,x),x);law n(x,m(x,x));law n(n(x,x),x);law n(x,n(x,x));";
         x = Probe.in("act m 2;act n 2;law m(m(x,x),x)+m(x,m(x,x));" + with0);
@@ -372,6 +407,13 @@ public final class MeaningSentencesTest {
         x.world(OPPOSED);
         S.due("2 k(x,k(x,x)) is not 0", x.map(0, "m=k(x,x);"), 0);
         S.due("0 is", x.map(0, "m=k(x,x)-k(x,x);"), 1);
+        x.world("mod 2;act k 2;");
+        x.image(0);
+        x.world("mod 2;act m 2;law m(x,x);");
+        S.due("1 by 2 is not 0", x.map(0, "m=k(x,x);"), 0);
+        S.due("2 by 2 is", x.map(0, "m=2 k(x,x);"), 1);
+        x.world(ASSOCIATIVE.replace('m', 'k'));
+        x.image(0);
         // Of two acts each is put as its own sum; a law of both, one that is 0.
         x.world("act m 2;act t 3;law t(x,x,x)-m(m(x,x),x);law t(x,x,x)-2 m(x,m(x,x));law 0 m(x,x);law t(x,m(x,x),x)-m(t(x,x,x),x);");
         S.due("t is k twice", x.map(0, "m=k(x,x);t=k(x,k(x,x));"), 3);
@@ -454,6 +496,13 @@ public final class MeaningSentencesTest {
         S.due("1 1 is not 0", x.holds(1), 0);
         x.table(0, "\0\0\0\0\0\0\0\7");
         S.due("7 is 0 by 7", x.holds(1), 1);
+        // Ways of the outcome that are 0 together are not 0.
+        x.table(0, "\0\0\0\0\0\0\1\6");
+        S.due("1 of way 0, -1 of way 1", x.holds(1), 0);
+        x = Probe.in("mod 2;act m 2;law m(x,x);law m(m(x,x),x)+m(x,m(x,x));");
+        x.table(0, "\1");
+        S.due("1 by 2", x.holds(0), 0);
+        S.due("1 and 1 by 2", x.holds(1), 1);
     }
 
     private static void drawn() {
@@ -462,15 +511,27 @@ public final class MeaningSentencesTest {
         Probe x = Probe.in("act a 2;");
         String[] rising = {"a(x,a(x,a(x,x)))", "a(x,a(a(x,x),x))", "a(a(x,x),a(x,x))", "a(a(x,a(x,x)),x)", "a(a(a(x,x),x),x)"};
         for (int seed : seeds) {
-            long turned = (seed * 1103515245L + 12345L & 0xffffffffL) >> 8;
             x.drawn(4, seed);
-            S.due("drawn by " + seed, x.tree(0), rising[(int) (turned % 5)]);
+            S.due("drawn by " + seed, x.tree(0), rising[drawOf(5, seed)]);
+        }
+        // So near seeds have all low bytes once: of two trees, the byte that is cut off decides for some.
+        x = Probe.in("act a 2;act b 2;");
+        for (int seed = 0; seed < 256; seed++) {
+            x = seed == 128 ? Probe.in("act a 2;act b 2;") : x;
+            x.drawn(2, seed);
+            S.due("drawn by " + seed, x.termAt(0, 0), "ab".charAt(drawOf(2, seed)));
         }
         // Of all trees, not of the normal ones alone.
         x = Probe.in(ASSOCIATIVE.replace('m', 'a') + "law a(x,a(x,x));");
         x.drawn(4, 3);
-        S.due("drawn where all trees are 0", x.tree(0), rising[(int) ((3 * 1103515245L + 12345L & 0xffffffffL) >> 8) % 5]);
+        S.due("drawn where all trees are 0", x.tree(0), rising[drawOf(5, 3)]);
         S.due("its number", x.term(0), 1);
+    }
+
+    /** The first draw of n by a seed, in numbers that do not wrap. */
+    private static int drawOf(int n, int seed) {
+        long turned = seed * 1103515245L + 12345L;
+        return (int) (((turned & 0xffffffffL) >> 8) % n);
     }
 
     private static void sumAtHand() {

@@ -6,6 +6,8 @@ import java.util.NoSuchElementException;
  */
 final class Probe {
     private static final int MOST_CALLS = 512;
+    /** A letter goes on in words and numbers, and is no way of a space. */
+    private static final int CUT_OFF = 'z';
 
     private final LeafWorlds worlds = new LeafWorlds();
     private int calls;
@@ -31,13 +33,13 @@ final class Probe {
         return MOST_CALLS - calls;
     }
 
-    /** Puts bytes (characters 0 to 255) behind the tape. */
+    /** Puts bytes (characters 0 to 255) behind the tape; what is cut off behind them would change any text. */
     void type(String text) {
         int before = count(5);
         for (int i = 0; i < text.length(); i += 20) {
             int[] n = new int[5];
             for (int j = 0; j < 20; j++) {
-                n[j / 4] = n[j / 4] << 8 | (i + j < text.length() ? text.charAt(i + j) & 255 : 0);
+                n[j / 4] = n[j / 4] << 8 | (i + j < text.length() ? text.charAt(i + j) & 255 : CUT_OFF);
             }
             if (feed(n[0], n[1], n[2], n[3], n[4]) < 0) {
                 throw new IllegalStateException("the test's text is too long");
