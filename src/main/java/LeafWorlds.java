@@ -882,6 +882,8 @@ public final class LeafWorlds {
         /** 356 is the most for all worlds with at most 300 trees of each number of leaves. */
         private static final int MOST_KEYS = 400;
         private static final int FIRST_RULES = 512;
+        /** The world with 356 trees has these: for each tree a number for each lesser one with as many leaves. */
+        private static final int MOST_RULES = 35261;
         private static final int UNKNOWN = -1;
 
         final World world;
@@ -1018,8 +1020,8 @@ public final class LeafWorlds {
         }
 
         private void makeRoom(int need) {
-            if (need > rules.length) {
-                rules = Arrays.copyOf(rules, Math.max(need, 2 * rules.length));
+            if (need > rules.length && need <= MOST_RULES) {
+                rules = Arrays.copyOf(rules, Math.min(MOST_RULES, Math.max(need, 2 * rules.length)));
             }
         }
 
@@ -1175,7 +1177,7 @@ public final class LeafWorlds {
                 for (int t = 0; t < treesOf(n); t++) {
                     if (isBare(n, t)) {
                         bares++;
-                        unclosed[n] |= !isNormal(n, t);
+                        unclosed[n] = unclosed[n] || !isNormal(n, t);
                     }
                 }
                 bareCounts[n] = bares;

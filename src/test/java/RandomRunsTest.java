@@ -10,6 +10,8 @@ public final class RandomRunsTest {
     private static final int[] PRIMES = {2, 3, 5, 7, 11, 13, 97};
 
     private final Random random;
+    /** In a wide run there are more laws, leaves and terms, up to what the document allows and past it. */
+    private final boolean wide;
     private final LeafWorlds right = new LeafWorlds();
     private final NaiveWorlds due = new NaiveWorlds();
     private final List<String> calls = new ArrayList<>();
@@ -22,6 +24,7 @@ public final class RandomRunsTest {
 
     private RandomRunsTest(long seed) {
         random = new Random(seed);
+        wide = seed % 4 == 3;
     }
 
     public static void main(String[] args) {
@@ -217,9 +220,9 @@ public final class RandomRunsTest {
             lastPrime = random.nextInt(3) == 0 ? PRIMES[random.nextInt(PRIMES.length)] : lastPrime;
             s.append("mod ").append(lastPrime).append(';');
         }
-        int laws = random.nextInt(4);
+        int laws = wide && random.nextInt(3) == 0 ? random.nextInt(20) : random.nextInt(4);
         for (int l = 0; l < laws && acts > 0; l++) {
-            int n = binary && random.nextInt(4) != 0 ? 3 : 2 + random.nextInt(4);
+            int n = binary && random.nextInt(4) != 0 ? 3 : 2 + random.nextInt(wide ? 6 : 4);
             s.append("law ").append(sumText(n, 1 + random.nextInt(3), names, entries)).append(';');
         }
         feed(stretched(spoilt(s.toString()), 900));
@@ -245,13 +248,15 @@ public final class RandomRunsTest {
         switch (which) {
             case 0, 1, 2 -> newWorld();
             case 3, 4, 5, 6 -> {
-                feed(stretched(spoilt(sumText(1 + random.nextInt(5), 1 + random.nextInt(4), names, entries)), 400));
+                int leaves = 1 + random.nextInt(wide ? 8 : 5);
+                feed(stretched(spoilt(sumText(leaves, 1 + random.nextInt(wide ? 20 : 4), names, entries)), 400));
                 same("sum()", right.sum(), due.sum());
                 same("fault()", right.fault(), due.fault());
             }
             case 7, 8, 9 -> {
-                feed(stretched(spoilt(sumText(1 + random.nextInt(3), 1 + random.nextInt(3), names, entries)), 400));
-                int i = random.nextInt(4) - (random.nextInt(9) == 0 ? 1 : 0);
+                int leaves = 1 + random.nextInt(wide ? 5 : 3);
+                feed(stretched(spoilt(sumText(leaves, 1 + random.nextInt(wide ? 20 : 3), names, entries)), 400));
+                int i = random.nextInt(wide ? 7 : 4) - (random.nextInt(9) == 0 ? 1 : 0);
                 same("plug(" + i + ")", right.plug(i), due.plug(i));
                 same("fault()", right.fault(), due.fault());
             }
